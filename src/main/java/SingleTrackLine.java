@@ -476,8 +476,9 @@ public final class SingleTrackLine {
         int destination;
         int departure;
         int planned;
-        /** Where the train is, or where the section leads to that it is in. */
+        /** Where the train is, or where it runs to in its section. */
         int station;
+        /** Like the remaining time, of no meaning unless the train is in a section. */
         int section;
         int remaining;
         boolean isHeld;
@@ -500,8 +501,6 @@ public final class SingleTrackLine {
         void stopAt(int newStation, int minute) {
             place = Place.AT_STATION;
             station = newStation;
-            section = NONE;
-            remaining = 0;
             cameAt = minute;
         }
 
@@ -560,6 +559,7 @@ public final class SingleTrackLine {
         int finishedCount;
         int lastFinishedNumber;
         long delaySum;
+        /** From 0, since no train arrives before its plan. */
         int longestDelay;
         int punctualCount;
 
@@ -751,9 +751,7 @@ public final class SingleTrackLine {
                 return;
             }
             int delay = time - train.planned;
-            if (finishedCount == 0 || delay > longestDelay) {
-                longestDelay = delay;
-            }
+            longestDelay = Math.max(longestDelay, delay);
             if (delay == 0) {
                 punctualCount++;
             }
@@ -889,7 +887,7 @@ public final class SingleTrackLine {
         }
 
         int countFreeTracks(int station) {
-            if (!hasStation(station)) {
+            if (station < 0 || station >= stationCount) {
                 return 0;
             }
             int free = tracks[station];

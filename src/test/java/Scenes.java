@@ -105,6 +105,7 @@ final class Scenes {
         }
         text.append(" ; ").append(x.finishedTrains()).append(' ').append(x.totalDelay());
         text.append(' ').append(answer(x::lastFinished)).append(' ').append(answer(x::greatestDelay));
+        text.append(' ').append(x.finishedTrains() == 0 ? "-" : x.meanDelay() + " " + x.punctualShare());
         text.append(' ').append(x.isConsistent()).append(' ').append(x.stuckTrains());
         return text.toString();
     }

@@ -9,6 +9,7 @@ public final class TotalsTest {
         time();
         beforeAnyFinished();
         oneAfterTheOther();
+        theGreatestFirst();
         twoInTheSameMinute();
         meansAreNotRounded();
         cancelledTrainsDoNotCount();
@@ -72,6 +73,21 @@ public final class TotalsTest {
         Due.is("35: the greatest one is not the last one", x.greatestDelay(), 9);
         Due.isReal("36: of four", x.meanDelay(), 4.0);
         Due.isReal("37: two of four", x.punctualShare(), 0.5f);
+    }
+
+    private static void theGreatestFirst() {
+        SingleTrackLine x = Scenes.line(1, 1, 1, 3);
+        x.addTrain(0, 1, 1);
+        x.hold(1);
+        x.advance(7);
+        x.releaseTrain(1);
+        x.addTrain(0, 1, 9);
+        x.advance(4);
+        Due.is("35: six minutes late", x.greatestDelay(), 6);
+        x.advance(30);
+        Due.is("33: the other one", x.lastFinished(), 2);
+        Due.is("35: still six, the other one was punctual", x.greatestDelay(), 6);
+        Due.is("34: still six", x.totalDelay(), 6);
     }
 
     private static void twoInTheSameMinute() {

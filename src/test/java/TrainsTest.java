@@ -12,6 +12,7 @@ public final class TrainsTest {
         addTrain();
         addTrainRefused();
         numbersAreNotUsedTwice();
+        nothingIsLeftOfEarlierTrains();
         hold();
         release();
         holdAndReleaseRefused();
@@ -81,6 +82,30 @@ public final class TrainsTest {
         y.addTrain(0, 1, 1);
         y.advance(3);
         Due.is("4: after the only one finished", y.addTrain(0, 1, 1), 2);
+    }
+
+    private static void nothingIsLeftOfEarlierTrains() {
+        SingleTrackLine x = Scenes.line(4, 1, 1, 9, 4, 9);
+        x.addTrain(1, 0, 1);
+        x.hold(1);
+        for (int number = 2; number <= 6; number++) {
+            x.addTrain(number % 2 * 2, 2 - number % 2 * 2, 1);
+        }
+        x.advance(9);
+        Due.is("25: they have waited", x.waitedMinutes(2), 8);
+        for (int number = 1; number <= 6; number++) {
+            if (number > 1) {
+                x.hold(number);
+            }
+            x.cancelTrain(number);
+        }
+        for (int number = 7; number <= 12; number++) {
+            Due.is("4: train " + number, x.addTrain(0, 2, 5), number);
+            Due.is("4: initially not held", x.isHeld(number), false);
+            Due.is("4: initially nothing waited", x.waitedMinutes(number), 0);
+            Due.is("4: initially expected", x.isExpected(number), true);
+        }
+        Due.is("4: one of them is held", x.hold(9), 1);
     }
 
     private static void hold() {

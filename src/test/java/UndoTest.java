@@ -9,6 +9,9 @@ public final class UndoTest {
         atMostEight();
         undoThenChange();
         undoOfLongRuns();
+        trainsGoOnAsIfNothingHadBeen();
+        placesComeBack();
+        totalsComeBack();
         whatUndoLeaves();
         saveAndRestore();
         saveIsNotUndone();
@@ -118,6 +121,58 @@ public final class UndoTest {
         Due.is("40: seven commands", Scenes.run(x, "wait 60;wait 60;wait 60;wait 60;wait 60;wait 60;wait 60"), 7);
         Due.is("46: run is one call", x.undo(), 1);
         Due.is("46: time", x.time(), 0);
+    }
+
+    private static void trainsGoOnAsIfNothingHadBeen() {
+        SingleTrackLine x = Scenes.line(1, 1, 1, 3, 1, 3);
+        x.addTrain(0, 2, 1);
+        x.advance(1);
+        x.advance(5);
+        Due.is("46: came to station 1 in minute 5", Scenes.drawing(x), "[]-[]>1[]");
+        x.undo();
+        x.hold(1);
+        x.advance(3);
+        x.releaseTrain(1);
+        x.advance(1);
+        Due.is("46: leaves in minute 5", Scenes.drawing(x), "[]>1[]-[]");
+    }
+
+    private static void placesComeBack() {
+        SingleTrackLine x = Scenes.line(1, 1, 1, 5, 1, 7);
+        x.save();
+        x.undo();
+        x.undo();
+        x.addStation(1, 9);
+        x.addStation(1, 11);
+        Due.is("46: other sections", x.distance(0, 2) * 100 + x.distanceByPositions(2, 0), 2020);
+        x.restore();
+        Due.is("48: the first ones, added up", x.distance(0, 2) * 10 + x.distance(0, 1), 125);
+        Due.is("48: the first ones, by positions", x.distanceByPositions(0, 2) * 10 + x.distanceByPositions(0, 1), 125);
+        Due.is("48: consistent", x.isConsistent(), true);
+    }
+
+    private static void totalsComeBack() {
+        SingleTrackLine x = Scenes.line(1, 1, 1, 3);
+        x.addTrain(0, 1, 1);
+        x.advance(5);
+        Due.isReal("37: punctual", x.punctualShare(), 1.0f);
+        x.undo();
+        Due.is("32: none has finished", x.finishedTrains(), 0);
+        x.hold(1);
+        x.advance(8);
+        x.releaseTrain(1);
+        x.save();
+        x.advance(4);
+        Due.isReal("37: now it was late", x.punctualShare(), 0.0f);
+        Due.is("35: seven minutes", x.greatestDelay(), 7);
+        Due.is("34: seven minutes", x.totalDelay(), 7);
+        x.restore();
+        Due.fails("33: none has finished", java.util.NoSuchElementException.class, x::lastFinished);
+        Due.is("34: none", x.totalDelay(), 0);
+        x.advance(9);
+        Due.is("35: seven minutes again", x.greatestDelay(), 7);
+        Due.is("34: seven minutes again", x.totalDelay(), 7);
+        Due.is("32: one", x.finishedTrains(), 1);
     }
 
     private static void whatUndoLeaves() {
