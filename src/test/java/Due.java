@@ -2,8 +2,18 @@
 final class Due {
     private static int wrong = 0;
     private static int asked = 0;
+    private static String about = "";
 
     private Due() {
+    }
+
+    /** What the following comparisons are about; it stands before what is printed. */
+    static void about(String subject) {
+        about = subject;
+    }
+
+    static int countAsked() {
+        return asked;
     }
 
     static void is(String what, long got, long want) {
@@ -37,7 +47,7 @@ final class Due {
         asked++;
         if (!isRight) {
             wrong++;
-            System.out.println(what + ": answered " + got + ", due is " + want);
+            System.out.println(about + what + ": answered " + got + ", due is " + want);
         }
     }
 

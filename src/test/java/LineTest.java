@@ -74,7 +74,7 @@ public final class LineTest {
     }
 
     private static SingleTrackLine full() {
-        return Scenes.line(1, 1, 2, 2, 3, 3, 4, 4, 1, 5, 2, 6, 3, 7);
+        return Scenes.on(Scenes::makeFull);
     }
 
     private static void setTracks() {

@@ -1,4 +1,3 @@
-import java.util.NoSuchElementException;
 import java.util.function.Supplier;
 
 /** Lines that several tests start from, and what can be read from a line. */
@@ -9,10 +8,14 @@ final class Scenes {
     /** Pairs of tracks and running time; the first running time has no effect. */
     static SingleTrackLine line(int... tracksAndTimes) {
         SingleTrackLine x = new SingleTrackLine();
+        addStations(x, tracksAndTimes);
+        return x;
+    }
+
+    static void addStations(SingleTrackLine x, int... tracksAndTimes) {
         for (int i = 0; i + 1 < tracksAndTimes.length; i += 2) {
             x.addStation(tracksAndTimes[i], tracksAndTimes[i + 1]);
         }
-        return x;
     }
 
     /**
@@ -20,7 +23,11 @@ final class Scenes {
      * station 0, train 4 (1 to 0) is expected, train 5 has finished. Ten changing calls have been made.
      */
     static SingleTrackLine busy() {
-        SingleTrackLine x = line(2, 1, 1, 9, 3, 4);
+        return on(Scenes::makeBusy);
+    }
+
+    static void makeBusy(SingleTrackLine x) {
+        addStations(x, 2, 1, 1, 9, 3, 4);
         x.addTrain(0, 2, 4);
         x.addTrain(2, 0, 3);
         x.addTrain(0, 2, 2);
@@ -28,7 +35,33 @@ final class Scenes {
         x.addTrain(1, 2, 1);
         x.hold(3);
         x.advance(6);
+    }
+
+    /** A new object on which the scene was made. */
+    static SingleTrackLine on(Call scene) {
+        SingleTrackLine x = new SingleTrackLine();
+        scene.on(x);
         return x;
+    }
+
+    static void leaveEmpty(SingleTrackLine x) {
+    }
+
+    static void makeOneStation(SingleTrackLine x) {
+        addStations(x, 2, 1);
+    }
+
+    /** Seven stations, more than which there cannot be. */
+    static void makeFull(SingleTrackLine x) {
+        addStations(x, 1, 1, 2, 2, 3, 3, 4, 4, 1, 5, 2, 6, 3, 7);
+    }
+
+    /** Six expected trains, more than which there cannot be. */
+    static void makeSixTrains(SingleTrackLine x) {
+        addStations(x, 1, 1, 1, 2, 1, 3);
+        for (int i = 0; i < 6; i++) {
+            x.addTrain(i % 3, (i + 1) % 3, 1 + i);
+        }
     }
 
     /** Six trains that have met each other on four stations for 14 minutes; two have finished. */
@@ -72,11 +105,12 @@ final class Scenes {
         return output(x, x.writeTrain(train));
     }
 
-    private static String answer(Supplier<Object> call) {
+    /** The answer, or the simple name of the exception. */
+    static String answer(Supplier<Object> call) {
         try {
             return String.valueOf(call.get());
-        } catch (NoSuchElementException | IllegalStateException | IndexOutOfBoundsException e) {
-            return "-";
+        } catch (RuntimeException e) {
+            return e.getClass().getSimpleName();
         }
     }
 

@@ -43,11 +43,7 @@ public final class TrainsTest {
     }
 
     private static SingleTrackLine sixTrains() {
-        SingleTrackLine x = Scenes.line(1, 1, 1, 2, 1, 3);
-        for (int i = 0; i < 6; i++) {
-            x.addTrain(i % 3, (i + 1) % 3, 1 + i);
-        }
-        return x;
+        return Scenes.on(Scenes::makeSixTrains);
     }
 
     private static void addTrainRefused() {
